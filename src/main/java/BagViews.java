@@ -384,8 +384,12 @@ public final class BagViews {
                 if (order != 0 || often[i] != other.often[j]) {
                     different++;
                 }
-                i += order <= 0 ? 1 : 0;
-                j += order >= 0 ? 1 : 0;
+                if (order <= 0) {
+                    i++;
+                }
+                if (order >= 0) {
+                    j++;
+                }
             }
             return different + (rowCount - i) + (other.rowCount - j);
         }
@@ -430,21 +434,22 @@ public final class BagViews {
             if (rowCount >= MOST_ROWS || n > MOST_TIMES) {
                 return false;
             }
-            move(place, place + 1, rowCount - place);
-            System.arraycopy(row, 0, cells, place * MOST_COLUMNS, MOST_COLUMNS);
+            int behind = rowCount - place;
+            int from = place * MOST_COLUMNS;
+            System.arraycopy(cells, from, cells, from + MOST_COLUMNS, behind * MOST_COLUMNS);
+            System.arraycopy(often, place, often, place + 1, behind);
+            System.arraycopy(row, 0, cells, from, MOST_COLUMNS);
             often[place] = (int) n;
             rowCount++;
             return true;
         }
 
         private void remove(int k) {
-            move(k + 1, k, rowCount - k - 1);
+            int behind = rowCount - k - 1;
+            int to = k * MOST_COLUMNS;
+            System.arraycopy(cells, to + MOST_COLUMNS, cells, to, behind * MOST_COLUMNS);
+            System.arraycopy(often, k + 1, often, k, behind);
             rowCount--;
-        }
-
-        private void move(int from, int to, int many) {
-            System.arraycopy(cells, from * MOST_COLUMNS, cells, to * MOST_COLUMNS, many * MOST_COLUMNS);
-            System.arraycopy(often, from, often, to, many);
         }
     }
 
@@ -637,14 +642,12 @@ public final class BagViews {
         }
 
         boolean makeInto(Bag into) {
-            return addAll(left.latest(), into) && addAll(right.latest(), into);
-        }
-
-        private boolean addAll(Bag of, Bag into) {
+            into.copyFrom(left.latest());
+            Bag rights = right.latest();
             boolean fits = true;
-            for (int k = 0; k < of.rowCount && fits; k++) {
-                of.readRow(k, row);
-                fits = into.add(row, of.often[k]);
+            for (int k = 0; k < rights.rowCount && fits; k++) {
+                rights.readRow(k, row);
+                fits = into.add(row, rights.often[k]);
             }
             return fits;
         }
