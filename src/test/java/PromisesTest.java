@@ -125,6 +125,11 @@ public final class PromisesTest {
         x.put(0, 3, 1, 0, 0, -2);
         x.put(0, 5, 5, 0, 0, 1);
         rowsAre("3: kept up to date", x, 2, "0 0 x6 | 1 -2 x1");
+        x.put(0, 5, 5, 0, 0, -1);
+        x.put(0, 5, -5, 0, 0, 1);
+        x.put(0, 5, -5, 0, 0, -1);
+        rowsAre("3: the last row came and went", x, 2, "0 0 x6 | 1 -2 x1");
+        x.put(0, 5, 5, 0, 0, 1);
         due.answer("3: width", 2, () -> x.width(2));
         x.select(3, 0, 0, 2, 99, false);
         due.answer("3: x is a number, not a column", 5, () -> x.rows(3));
@@ -239,6 +244,16 @@ public final class PromisesTest {
             "0 5 5 -8 x12 | 0 5 5 7 x3 | 1 5 5 -8 x8 | 1 5 5 7 x2");
         x.put(1, 5, -8, 0, 0, -4);
         rowsAre("5: kept up to date", x, 2, "0 5 5 7 x3 | 1 5 5 7 x2");
+        x.put(1, 8, 5, 0, 0, 1);
+        x.put(0, 1, 8, 0, 0, 1);
+        x.put(1, 8, 5, 0, 0, -1);
+        x.put(0, 1, 8, 0, 0, -1);
+        x.put(0, 9, 8, 0, 0, 1);
+        x.put(1, 8, 5, 0, 0, 1);
+        rowsAre("5: a last row came", x, 2, "0 5 5 7 x3 | 1 5 5 7 x2 | 9 8 8 5 x1");
+        x.put(1, 8, 5, 0, 0, -1);
+        rowsAre("5: the right one went", x, 2, "0 5 5 7 x3 | 1 5 5 7 x2");
+        x.put(0, 9, 8, 0, 0, -1);
         x.join(3, 0, 1, 0, 0);
         rowsAre("5: by other columns", x, 3, "5 1 5 7 x9");
         x.table(4, 1);
@@ -252,6 +267,10 @@ public final class PromisesTest {
         rowsAre("5: with itself", x, 7, "5 5 x4");
         x.put(4, 5, 0, 0, 0, 1);
         rowsAre("5: with itself, both change", x, 7, "5 5 x9");
+        x.put(4, 5, 0, 0, 0, -3);
+        rowsAre("5: with itself, none any more", x, 7, "");
+        rowsAre("5: none on the left", x, 5, "");
+        rowsAre("5: none on the right", x, 6, "");
     }
 
     private static void joinRefuses() {
@@ -285,7 +304,11 @@ public final class PromisesTest {
         due.refusal("5: beyond it by put", BOUND, () -> y.put(0, 1, 0, 0, 0, 1));
         due.answer("5: nothing changed", 1000, () -> y.times(0, 1, 0, 0, 0));
         y.drop(2);
-        y.put(0, 1, 0, 0, 0, 999000);
+        y.put(0, 1, 0, 0, 0, 1);
+        y.put(1, 1, 0, 0, 0, -999);
+        due.refusal("5: 1001 times 999001 is one beyond", BOUND, () -> y.join(2, 0, 1, 0, 0));
+        y.put(0, 1, 0, 0, 0, 998999);
+        y.put(1, 1, 0, 0, 0, 999);
         due.refusal("5: far beyond it when made", BOUND, () -> y.join(2, 0, 1, 0, 0));
         due.answer("5: not made", 0, () -> y.width(2));
         y.table(3, 2);
@@ -643,6 +666,8 @@ public final class PromisesTest {
         BagViews x = small();
         due.answer("14: table", 12, () -> x.size(0));
         due.answer("14: view", 4, () -> x.size(1));
+        x.put(0, 3, 1, 0, 0, -2);
+        due.answer("14: the last row went", 10, () -> x.size(0));
         x.table(2, 1);
         due.answer("14: empty", 0, () -> x.size(2));
         due.refusal("14: none", INDEX, () -> x.size(3));
