@@ -27,6 +27,10 @@ final class BagModel {
         void more(List<Integer> row, long n) {
             merge(row, n, Long::sum);
         }
+
+        long all() {
+            return values().stream().mapToLong(Long::longValue).sum();
+        }
     }
 
     interface Maker {
@@ -265,6 +269,35 @@ final class BagModel {
         }
         change(table, rows);
         return rows.size();
+    }
+
+    int width(int r) {
+        index(isPlace(r));
+        return relations[r] == null ? 0 : relations[r].width;
+    }
+
+    long times(int r, int a, int b, int c, int d) {
+        Relation asked = at(r);
+        return asked.rows().getOrDefault(Arrays.asList(a, b, c, d).subList(0, asked.width), 0L);
+    }
+
+    long cell(int r, int k, int column) {
+        Relation asked = at(r);
+        List<List<Integer>> all = new ArrayList<>(asked.rows().keySet());
+        index(k >= 0 && k < all.size() && column >= 0 && column <= asked.width);
+        List<Integer> row = all.get(k);
+        return column == asked.width ? asked.rows().get(row) : row.get(column);
+    }
+
+    int count(int what) {
+        argument(what >= 0 && what <= 2);
+        int counted = 0;
+        for (Relation relation : relations) {
+            if (relation != null) {
+                counted += what == 0 ? 1 : what == 2 ? relation.rows().size() : relation.maker == null ? 1 : 0;
+            }
+        }
+        return counted;
     }
 
     private void change(Relation table, Rows rows) {

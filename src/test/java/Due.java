@@ -64,8 +64,20 @@ final class Due {
         }
     }
 
+    /** A call's answer, or the name of what it throws. */
+    static String said(LongSupplier call) {
+        try {
+            return "" + call.getAsLong();
+        } catch (RuntimeException e) {
+            return e.getClass().getSimpleName();
+        }
+    }
+
     /** All rows of a relation in their order, as "1 5 x2 | 7 3 x1", by cell() alone. */
     static String rowsOf(BagViews x, int r) {
+        if (x.width(r) == 0) {
+            return "none";
+        }
         StringBuilder text = new StringBuilder();
         for (int k = 0; k < x.rows(r); k++) {
             text.append(k == 0 ? "" : " | ");

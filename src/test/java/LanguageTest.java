@@ -140,11 +140,11 @@ public final class LanguageTest {
         x.put(0, 0, 0, 0, 0, 1);
         long thread = Thread.currentThread().getId();
         long before = threads.getThreadAllocatedBytes(thread);
-        for (int i = 0; i < 512; i++) {
+        for (int i = 0; i < 500; i++) {
             x.put(0, i % 20, 0, 0, 0, 1);
         }
         long made = threads.getThreadAllocatedBytes(thread) - before;
-        due.holds("512 puts make " + made + " bytes", made < 50000);
+        due.holds("500 puts make " + made + " bytes", made < 50000);
     }
 
     private LanguageTest() {
