@@ -25,6 +25,7 @@ public final class PromisesTest {
         bothRefuses();
         once();
         group();
+        groupEnds();
         groupRefuses();
         drop();
         put();
@@ -464,6 +465,27 @@ public final class PromisesTest {
         rowsAre("8: 3000000000 rows wrap", y, 4, (int) 3000000000L + " x1");
         y.group(5, 3, NONE, 1, 0);
         rowsAre("8: their sum wraps", y, 5, (int) 6000000000L + " x1");
+    }
+
+    /** The least and the greatest value stand in the first, a middle and the last row of what is grouped. */
+    private static void groupEnds() {
+        int[][] values = {{-9, 0, 8, 5}, {5, -9, 8, 0}, {5, 8, -9, 0}, {8, 5, 0, -9}};
+        for (int[] column : values) {
+            BagViews x = new BagViews();
+            x.table(0, 3);
+            x.group(1, 0, NONE, 2, 1);
+            x.group(2, 0, NONE, 3, 1);
+            x.group(3, 0, 2, 2, 1);
+            x.group(4, 0, 2, 3, 1);
+            for (int i = 0; i < column.length; i++) {
+                x.put(0, i, column[i], 6, 0, i + 1);
+                x.put(0, i, -column[i], 7, 0, 1);
+            }
+            rowsAre("8: least of all", x, 1, "-9 x1");
+            rowsAre("8: greatest of all", x, 2, "9 x1");
+            rowsAre("8: least by column 2", x, 3, "6 -9 x1 | 7 -8 x1");
+            rowsAre("8: greatest by column 2", x, 4, "6 8 x1 | 7 9 x1");
+        }
     }
 
     private static void groupRefuses() {
